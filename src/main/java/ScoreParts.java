@@ -894,24 +894,18 @@ public final class ScoreParts {
     /** What was noted when a part was printed, in ascending order of the ids. */
     private static final class Noted {
         final int count;
-        final int[] ids;
-        final int[] labels;
-        final int[] letters;
-        final int[] beatCounts;
-        final int[] contents;
+        final int[] ids = new int[MAX_BARS];
+        final int[] labels = new int[MAX_BARS];
+        final int[] letters = new int[MAX_BARS];
+        final int[] beatCounts = new int[MAX_BARS];
+        final int[] contents = new int[MAX_BARS];
 
         Noted(View view, int part) {
             Score score = view.score;
-            count = view.playedCount;
-            ids = new int[count];
-            labels = new int[count];
-            letters = new int[count];
-            beatCounts = new int[count];
-            contents = new int[count];
             int entry = 0;
             for (int slot = 0; slot < score.barCount; slot++) {
                 int place = view.placesById[slot];
-                if (view.isPlayed(place) && entry < count) {
+                if (view.isPlayed(place)) {
                     ids[entry] = score.ids[place];
                     labels[entry] = view.labels[place];
                     letters[entry] = view.letters[place];
@@ -920,6 +914,7 @@ public final class ScoreParts {
                     entry++;
                 }
             }
+            count = entry;
         }
 
         int barWithLetter(int letter) {

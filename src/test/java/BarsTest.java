@@ -147,6 +147,8 @@ public final class BarsTest {
         x.openCut(0);
         CHECK.due("played", x.played(), 3);
         CHECK.due("hiddenBy(1)", x.hiddenBy(1), 4);
+        x.makeCut(0, 2);
+        CHECK.due("hiddenBy(0), from the first bar on", x.hiddenBy(0), 3);
     }
 
     private static void wrongInputs() {

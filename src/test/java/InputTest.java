@@ -13,7 +13,10 @@ public final class InputTest {
         newObject();
         feed();
         loadTakesTheFirstBytes();
+        loadEndsATokenAtTheLength();
+        fullBuffer();
         loadReplacesEverything();
+        loadsAreCountedEachForItself();
         loadWithErrorChangesNothingElse();
         rightTexts();
         whatATextTells();
@@ -30,6 +33,8 @@ public final class InputTest {
     private static void newObject() {
         ScoreParts x = new ScoreParts();
         CHECK.due("bars", x.bars(), 0);
+        CHECK.due("played", x.played(), 0);
+        CHECK.due("beats", x.beats(), 0);
         CHECK.due("parts", x.parts(), 0);
         CHECK.due("marks", x.marks(), 0);
         CHECK.due("cuts", x.cuts(), 0);
@@ -69,6 +74,46 @@ public final class InputTest {
         CHECK.due("errorCode stays", x.errorCode(), SYNTAX);
         CHECK.due("errorPosition stays", x.errorPosition(), 5);
         CHECK.due("feed after an error", x.feed(0, 0, 0, 0, 0), 20);
+    }
+
+    private static void wrongWithin(String text, int length, int position) {
+        ScoreParts x = new ScoreParts();
+        Check.feed(x, text);
+        CHECK.dueThrow("load(" + length + ") of " + text, IllegalStateException.class, () -> x.load(length));
+        CHECK.due("errorCode", x.errorCode(), SYNTAX);
+        CHECK.due("errorPosition", x.errorPosition(), position);
+    }
+
+    private static void loadEndsATokenAtTheLength() {
+        wrongWithin("bars 12;", 6, 6);
+        wrongWithin("bars 00012;", 9, 9);
+        wrongWithin("part ab;", 6, 6);
+        wrongWithin("bars 5;mark 5;", 10, 7);
+        wrongWithin("bars 5 ;", 7, 7);
+        ScoreParts x = new ScoreParts();
+        Check.feed(x, "bars 5;bars 5;");
+        CHECK.due("load(7)", x.load(7), 5);
+    }
+
+    private static void fullBuffer() {
+        String space = repeat(" ", 787);
+        wrong("bars 5;" + space + "text 1", SYNTAX, 800);
+        wrong("bars 5;" + space + "part a", SYNTAX, 800);
+        wrong("bars 5;" + space + "text  ", SYNTAX, 800);
+        right("bars 5;" + space.substring(1) + "text 5;", 5);
+    }
+
+    private static void loadsAreCountedEachForItself() {
+        String text = "bars 30;" + repeat("cut 1 1;", 6) + "mark 1;part a;part b;part c;part d;";
+        ScoreParts x = Check.loaded(text);
+        CHECK.due("the same text again", Check.load(x, text), 30);
+        CHECK.due("cuts", x.cuts(), 63);
+        CHECK.due("marks", x.marks(), 1);
+        CHECK.due("parts", x.parts(), 4);
+        Check.feed(x, text + "x");
+        CHECK.dueThrow("the same text, wrong", IllegalStateException.class, () -> x.load(text.length() + 1));
+        CHECK.due("the same text again", Check.load(x, text), 30);
+        CHECK.due("cuts", x.cuts(), 63);
     }
 
     private static void loadReplacesEverything() {
@@ -182,6 +227,16 @@ public final class InputTest {
         wrong("bars 1;\nba rs 1;", SYNTAX, 8);
         wrong("bar 1;", SYNTAX, 0);
         wrong("barss 1;", SYNTAX, 0);
+        wrong("cars 1;", SYNTAX, 0);
+        wrong("bart 1;", SYNTAX, 0);
+        wrong("bars 1;dark 1;", SYNTAX, 7);
+        wrong("bars 1;next 1;", SYNTAX, 7);
+        wrong("bars 1;rouble 1;", SYNTAX, 7);
+        wrong("bars 1;put 1 1;", SYNTAX, 7);
+        wrong("cart a;", SYNTAX, 0);
+        wrong("bars 1;part a best 1;", SYNTAX, 14);
+        wrong("bars 1;part a clay 1;", SYNTAX, 14);
+        wrong("bars 1;part a due 1;", SYNTAX, 14);
         wrong("Bars 1;", SYNTAX, 0);
         wrong("bars 1;mark;", SYNTAX, 11);
         wrong("bars 1;mark 1 1;", SYNTAX, 14);

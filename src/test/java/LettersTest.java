@@ -111,6 +111,9 @@ public final class LettersTest {
         x.openCut(0);
         CHECK.due("called(3)", x.called(3), 1001);
         CHECK.due("called(2)", x.called(2), 1000);
+        x.putMark(2, 0);
+        CHECK.due("called(0)", x.called(0), 2000);
+        CHECK.due("called(1)", x.called(1), 2001);
         CHECK.dueThrow("called(9)", NoSuchElementException.class, () -> x.called(9));
         CHECK.dueThrow("called(-1)", NoSuchElementException.class, () -> x.called(-1));
     }

@@ -8,6 +8,7 @@ public final class PartsTest {
     public static void main(String[] args) {
         contents();
         reasonsOneByOne();
+        firstPlayedBarHasNone();
         firstReasonThatApplies();
         whatStandsInCutBarsIsNoReason();
         items();
@@ -56,6 +57,14 @@ public final class PartsTest {
         CHECK.dueThrow("reason(3)", IllegalStateException.class, () -> x.reason(3));
         CHECK.dueThrow("reason(5)", NoSuchElementException.class, () -> x.reason(5));
         CHECK.dueThrow("reason(-1)", NoSuchElementException.class, () -> x.reason(-1));
+    }
+
+    private static void firstPlayedBarHasNone() {
+        ScoreParts x = Check.loaded("bars 3; text 1; text 2; double 1; mark 2;");
+        CHECK.due("reason(0)", x.reason(0), 0);
+        CHECK.due("reason(1)", x.reason(1), 1);
+        x.makeCut(0, 0);
+        CHECK.due("reason(1), the first played bar now", x.reason(1), 0);
     }
 
     private static void firstReasonThatApplies() {
@@ -174,6 +183,10 @@ public final class PartsTest {
         CHECK.due("sounding(0)", x.sounding(0), 33);
         CHECK.due("sounding(1)", x.sounding(1), 3);
         CHECK.due("sounding(2), cut", x.sounding(2), 11);
+        x.setContent(0, 1, 0);
+        CHECK.due("sounding(1)", x.sounding(1), 2);
+        x.setContent(1, 1, 2);
+        CHECK.due("sounding(1)", x.sounding(1), 0);
         CHECK.dueThrow("sounding(3)", NoSuchElementException.class, () -> x.sounding(3));
         CHECK.dueThrow("sounding(-1)", NoSuchElementException.class, () -> x.sounding(-1));
     }

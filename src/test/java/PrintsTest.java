@@ -12,6 +12,8 @@ public final class PrintsTest {
         firstKindThatApplies();
         orderOfErrata();
         barsThatAreGone();
+        everyBarIsAnErratum();
+        cutBarsThatWereNotNoted();
         laterPrint();
         erratumsArguments();
         misled();
@@ -139,6 +141,34 @@ public final class PrintsTest {
         x.undo();
         x.insert(3, 1, 4);
         dueErrata(x, 0, "4 2 1003, 6 1 -1");
+    }
+
+    private static void everyBarIsAnErratum() {
+        ScoreParts x = printed("bars 2; part a;");
+        x.makeCut(0, 1);
+        dueErrata(x, 0, "0 2 1000, 1 2 2000");
+        x.insert(NONE, 2, 4);
+        dueErrata(x, 0, "0 2 1000, 1 2 2000, 2 1 -1, 3 1 -1");
+        ScoreParts empty = printed("part a;");
+        dueErrata(empty, 0, "");
+        empty.insert(NONE, 2, 4);
+        dueErrata(empty, 0, "0 1 -1, 1 1 -1");
+        empty.insert(NONE, 1, 4);
+        dueErrata(empty, 0, "0 1 -1, 1 1 -1, 2 1 -1");
+        empty.print(0);
+        empty.erase(1);
+        empty.insert(2, 1, 4);
+        dueErrata(empty, 0, "0 3 2, 1 2 3, 3 1 -1");
+    }
+
+    private static void cutBarsThatWereNotNoted() {
+        ScoreParts x = printed("bars 6; cut 1 2; cut 4 5; part a;");
+        x.setContent(0, 2, 1);
+        x.setContent(0, 5, 1);
+        x.setContent(0, 0, 1);
+        dueErrata(x, 0, "2 6 0, 5 6 0");
+        x.openCut(1);
+        dueErrata(x, 0, "2 6 0, 3 1 -1, 4 1 -1, 5 6 0");
     }
 
     private static void laterPrint() {
