@@ -17,6 +17,8 @@ public final class ScoreParts {
     private static final int FEED_LENGTH = 20;
     // A label is 1000 * number + suffix; calls that answer two numbers in one join them in the same way.
     private static final int THOUSAND = 1000;
+    // More than there can be: each bar of the score and each noted one is an erratum at most.
+    private static final int ALL_ERRATA = 2 * MAX_BARS;
 
     private static final int REST = 0;
     private static final int NOTES = 1;
@@ -276,7 +278,7 @@ public final class ScoreParts {
 
     public int errata(int part) throws NoSuchElementException, IllegalStateException {
         requirePart(part);
-        return proofreader.walk(view, part, requirePrint(part), Integer.MAX_VALUE);
+        return proofreader.walk(view, part, requirePrint(part), ALL_ERRATA);
     }
 
     public int erratum(int part, int erratum, int what) throws NoSuchElementException, IllegalArgumentException,

@@ -20,6 +20,7 @@ public final class ChangesTest {
         renumber();
         setBar();
         setContent();
+        changesWithoutEffect();
         CHECK.finish();
     }
 
@@ -275,6 +276,25 @@ public final class ChangesTest {
         dueThrow(x, "setBar(1, 2, 13)", IllegalArgumentException.class, () -> x.setBar(1, 2, 13));
         dueThrow(x, "setBar(3, 3, 0)", NoSuchElementException.class, () -> x.setBar(3, 3, 0));
         dueThrow(x, "setBar(-1, 2, 1)", NoSuchElementException.class, () -> x.setBar(-1, 2, 1));
+    }
+
+    /** They are changes, too, as they do not throw. */
+    private static void changesWithoutEffect() {
+        ScoreParts x = new ScoreParts();
+        CHECK.due("reletter without marks", x.reletter(), 0);
+        CHECK.due("renumber without bars", x.renumber(), 0);
+        CHECK.due("undoCount", x.undoCount(), 2);
+        Check.load(x, "bars 3; mark 2; part a play 1;");
+        CHECK.due("reletter", x.reletter(), 0);
+        CHECK.due("renumber", x.renumber(), 0);
+        CHECK.due("setBar", x.setBar(0, 2, 4), 4);
+        CHECK.due("setBar", x.setBar(0, 4, 0), 0);
+        CHECK.due("setContent", x.setContent(0, 0, 1), 1);
+        CHECK.due("putMark", x.putMark(1, 1), 1);
+        CHECK.due("undoCount", x.undoCount(), 6);
+        CHECK.due("print", x.print(0), 2);
+        CHECK.due("print again", x.print(0), 2);
+        CHECK.due("undoCount", x.undoCount(), 8);
     }
 
     private static void setContent() {

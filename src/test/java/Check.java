@@ -77,6 +77,19 @@ final class Check {
         return text.toString();
     }
 
+    /** The state, the error and the output. (Tests may make more calls than 512: the class doesn't count them.) */
+    static String everything(ScoreParts x) {
+        StringBuilder all = new StringBuilder(state(x));
+        all.append('\n').append(x.errorCode()).append(' ').append(x.errorPosition()).append('\n');
+        String value = outcome(() -> x.outputByte(0));
+        for (int index = 1; Character.isDigit(value.charAt(0)); index++) {
+            int asked = index;
+            all.append(value).append(' ');
+            value = outcome(() -> x.outputByte(asked));
+        }
+        return all.toString();
+    }
+
     /** All that can be asked of the score without changing it, to see that a call changed nothing. */
     static String state(ScoreParts x) {
         StringBuilder all = new StringBuilder();
@@ -90,7 +103,9 @@ final class Check {
             for (int what = 0; what <= 8; what++) {
                 all.append(' ').append(x.bar(bars[place], what));
             }
-            all.append('\n');
+            int bar = bars[place];
+            all.append(' ').append(outcome(() -> x.called(bar))).append(' ').append(outcome(() -> x.reason(bar)));
+            all.append(' ').append(x.sounding(bar)).append('\n');
         }
         for (int cut = 0; cut < 10; cut++) {
             int number = cut;
@@ -98,12 +113,16 @@ final class Check {
         }
         for (int letter = 1; letter <= 40; letter++) {
             int asked = letter;
-            all.append(outcome(() -> x.mark(asked, 0))).append(' ').append(x.misled(letter)).append(' ');
+            all.append(outcome(() -> x.mark(asked, 0))).append(' ').append(outcome(() -> x.mark(asked, 1))).append(' ');
+            all.append(outcome(() -> x.from(asked, 1))).append(' ').append(x.misled(letter)).append(' ');
         }
         for (int part = 0; part < x.parts(); part++) {
             all.append('\n').append(x.isPrinted(part)).append(' ').append(x.items(part)).append(' ');
+            all.append(x.longestRest(part)).append(' ');
+            int asked = part;
             for (int bar : bars) {
-                all.append(x.content(part, bar));
+                all.append(x.content(part, bar)).append(' ').append(outcome(() -> x.itemOf(asked, bar))).append(' ');
+                all.append(outcome(() -> x.waiting(asked, bar))).append(' ');
             }
             all.append(errata(x, part));
         }

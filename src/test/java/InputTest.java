@@ -52,6 +52,7 @@ public final class InputTest {
             CHECK.due("feed to " + length, x.feed(0x20202020, 0x20202020, 0x20202020, 0x20202020, 0x20202020), length);
         }
         CHECK.dueThrow("feed beyond 800", IllegalStateException.class, () -> x.feed(0, 0, 0, 0, 0));
+        CHECK.dueThrow("feed beyond 800 again", IllegalStateException.class, () -> x.feed(-1, -1, -1, -1, -1));
         CHECK.due("load of 800 spaces", x.load(800), 0);
         CHECK.due("feed after load", x.feed(0x62617273, 0x20372035, 0x3b202020, 0x20202020, 0x2020200a), 20);
         CHECK.due("load of what was fed", x.load(20), 7);
@@ -248,6 +249,8 @@ public final class InputTest {
         wrong("part;", SYNTAX, 4);
         wrong("part 5;", SYNTAX, 5);
         wrong("part abcdefg;", SYNTAX, 5);
+        wrong("part A;", SYNTAX, 5);
+        wrong("part aB;", SYNTAX, 6);
         wrong("part a b;", SYNTAX, 7);
         wrong("part a 1;", SYNTAX, 7);
         wrong("bars 1;part a play;", SYNTAX, 18);
@@ -294,6 +297,7 @@ public final class InputTest {
         wrong("bars 9;mark 0;", RANGE, 12);
         wrong("bars 9;mark 10;bars 1;", RANGE, 12);
         wrong("text 1;bars 1;", RANGE, 5);
+        wrong("bars 9;text 0;", RANGE, 12);
         wrong("bars 9;text 10;", RANGE, 12);
         wrong("bars 9;double 0;", RANGE, 14);
         wrong("bars 9;double 10;", RANGE, 14);
@@ -314,6 +318,14 @@ public final class InputTest {
         wrong("bars 9;part a rest 9 cue 1;", RANGE, 25);
         wrong("bars 99;bars 9;part a rest 100;", RANGE, 27);
         right("bars 99;bars 9;part a rest 99 play 9;", 108);
+        for (String word : new String[] {"rest", "play", "cue"}) {
+            int at = "bars 99;bars 9;part a ".length() + word.length() + 1;
+            wrong("bars 99;bars 9;part a " + word + " 0;", RANGE, at);
+            right("bars 99;bars 9;part a " + word + " 1;", 108);
+            right("bars 99;bars 9;part a " + word + " 99;", 108);
+            wrong("bars 99;bars 9;part a " + word + " 100;", RANGE, at);
+            wrong("bars 99;bars 9;part a " + word + " 99 " + word + " 10;", RANGE, at + 4 + word.length());
+        }
         // Only the bars that were added before count.
         wrong("part a rest 1;bars 1;", RANGE, 12);
     }
@@ -348,6 +360,9 @@ public final class InputTest {
         wrong("bars 99;bars 51;bars 1;", LIMIT, 21);
         wrong("bars 99;bars 51;bars 1 13;", LIMIT, 21);
         right("bars 99;bars 51;", 150);
+        right("bars 99;bars 51;mark 150;text 150;double 150;cut 150 150;part a rest 99 play 50 cue 1;", 150);
+        wrong("bars 99;bars 51;mark 151;", RANGE, 21);
+        wrong("bars 99;bars 51;part a rest 99 play 52;", RANGE, 36);
         right(marksUpTo(20), 50);
         wrong(marksUpTo(21), LIMIT, marksUpTo(20).length());
         wrong(marksUpTo(20) + "mark", LIMIT, marksUpTo(20).length());

@@ -8,6 +8,7 @@ public final class LettersTest {
     public static void main(String[] args) {
         marks();
         movesOnWhenCut();
+        movesOnToAnInsertedBar();
         nearestCounts();
         lost();
         from();
@@ -47,6 +48,27 @@ public final class LettersTest {
         dueMark(x, 1, 2, 4, 1);
         x.openCut(0);
         dueMark(x, 1, 2, 2, 1);
+    }
+
+    private static void movesOnToAnInsertedBar() {
+        ScoreParts x = Check.loaded("bars 5; mark 2; mark 4; cut 2 3;");
+        CHECK.due("insert within the cut", x.insert(1, 1, 4), 5);
+        dueMark(x, 1, 1, 3, 0);
+        CHECK.due("insert right behind the cut", x.insert(2, 1, 4), 6);
+        dueMark(x, 1, 1, 6, 1);
+        dueMark(x, 2, 3, 3, 1);
+        CHECK.due("putMark on the bar in the cut", x.putMark(40, 5), NONE);
+        dueMark(x, 1, 1, 6, 0);
+        dueMark(x, 40, 5, 6, 1);
+        x.putMark(39, 6);
+        dueMark(x, 40, 5, 6, 0);
+        dueMark(x, 39, 6, 6, 1);
+        CHECK.dueThrow("from(40, 0), hidden", NoSuchElementException.class, () -> x.from(40, 0));
+        CHECK.due("from(39, -1)", x.from(39, -1), 0);
+        // Without a cut, each mark shows where it sits.
+        x.openCut(0);
+        dueMark(x, 1, 1, 1, 1);
+        dueMark(x, 40, 5, 5, 1);
     }
 
     private static void nearestCounts() {

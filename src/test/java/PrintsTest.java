@@ -14,6 +14,7 @@ public final class PrintsTest {
         barsThatAreGone();
         everyBarIsAnErratum();
         cutBarsThatWereNotNoted();
+        printWithoutPlayedBars();
         laterPrint();
         erratumsArguments();
         misled();
@@ -169,6 +170,19 @@ public final class PrintsTest {
         dueErrata(x, 0, "2 6 0, 5 6 0");
         x.openCut(1);
         dueErrata(x, 0, "2 6 0, 3 1 -1, 4 1 -1, 5 6 0");
+    }
+
+    private static void printWithoutPlayedBars() {
+        ScoreParts x = Check.loaded("bars 3; mark 2; cut 1 3; part a play 3;");
+        CHECK.due("print of no items", x.print(0), 0);
+        CHECK.due("isPrinted", x.isPrinted(0), true);
+        dueErrata(x, 0, "");
+        CHECK.due("misled(1), lost then and now", x.misled(1), 0);
+        x.openCut(0);
+        dueErrata(x, 0, "0 1 -1, 1 1 -1, 2 1 -1");
+        CHECK.due("misled(1), it was not noted", x.misled(1), 1);
+        x.undo();
+        dueErrata(x, 0, "");
     }
 
     private static void laterPrint() {

@@ -22,8 +22,9 @@ public final class UndoTest {
                 () -> x.openCut(0), () -> x.putMark(1, 8), () -> x.removeMark(2), x::renumber,
                 () -> x.setBar(0, 4, 1), () -> x.setContent(1, 0, 2), () -> x.print(0));
         dueUndone(x, changes);
-        dueUndone(x, List.of(() -> x.putMark(40, 0), () -> x.putMark(39, 3), () -> x.removeMark(40), x::reletter, () -> x.setBar(0, 2, 9), () -> x.setBar(0, 5, 1),
-                () -> x.print(1), () -> x.insert(NONE, 20, 1), () -> x.print(1)));
+        dueUndone(x, List.of(() -> x.putMark(40, 0), () -> x.putMark(39, 3), () -> x.removeMark(40), x::reletter,
+                () -> x.setBar(0, 2, 9), () -> x.setBar(0, 5, 1), () -> x.print(1), () -> x.insert(NONE, 20, 1),
+                () -> x.print(1)));
     }
 
     private static void dueUndone(ScoreParts x, List<Check.Call> changes) {
